@@ -1285,7 +1285,7 @@ public final class HotThrough {
         /** A dinner: letters of acts, and the numbers told behind each. */
         final int[] letters = new int[PLANNED];
         final int[] firsts = new int[PLANNED];
-        final int[] seconds = new int[PLANNED];
+        final int[] others = new int[PLANNED];
 
         Acts(Kitchen kitchen, State state, Rule rule, Carrier carrier) {
             this.kitchen = kitchen;
@@ -1503,27 +1503,37 @@ public final class HotThrough {
                 return;
             }
             int letter = text.peek();
+            if (!isAct(letter)) {
+                text.fail();
+                return;
+            }
             text.next();
             letters[k] = letter;
             firsts[k] = 0;
-            seconds[k] = 0;
+            others[k] = 0;
             switch (letter) {
                 case 't': case 'g':
                     firsts[k] = text.digit(0);
-                    seconds[k] = text.digit(0);
+                    others[k] = text.digit(0);
                     break;
                 case 'd': case 'c':
                     firsts[k] = text.digit(0);
                     break;
                 case 'w':
                     firsts[k] = text.digit(0);
-                    seconds[k] = text.number(2);
-                    break;
-                case 's': case 'o':
-                    firsts[k] = text.number(2);
+                    others[k] = text.number(2);
                     break;
                 default:
-                    text.failAt(text.at - 1);
+                    firsts[k] = text.number(2);
+            }
+        }
+
+        private static boolean isAct(int letter) {
+            switch (letter) {
+                case 't': case 'd': case 'w': case 's': case 'c': case 'g': case 'o':
+                    return true;
+                default:
+                    return false;
             }
         }
 
@@ -1533,12 +1543,12 @@ public final class HotThrough {
                 return NONE;
             }
             switch (letters[k]) {
-                case 't': return taken(firsts[k], seconds[k]);
+                case 't': return taken(firsts[k], others[k]);
                 case 'd': return setDown(firsts[k]);
-                case 'w': return walked(firsts[k], seconds[k]);
+                case 'w': return walked(firsts[k], others[k]);
                 case 's': return elapsed(firsts[k]);
                 case 'c': return changed(firsts[k]);
-                case 'g': return given(firsts[k], seconds[k]);
+                case 'g': return given(firsts[k], others[k]);
                 default: return opened(firsts[k], 1);
             }
         }

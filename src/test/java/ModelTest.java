@@ -7,22 +7,28 @@ import java.util.Random;
 public final class ModelTest {
     private static final String[] RULES = {"", "h/10", "h/(10*f+3)", "h/20+1", "n/4+1", "(h>100)*9", "s*2-n", "b/7",
         "10", "5", "h/30+(i=1)*3", "r*9+2", "(p=1)*5+4", "(s<20)*7", "h/(f+9)-n/9", "1", "n+1", "0", "s/3+1", "b-n"};
+    private static final String[] DEEP_RULES = {"h/100", "h/60+1", "5", "7", "9", "12", "h/50", "n/6+4", "b/9+1", "b/6",
+        "(s<30)*9+1", "h/90+(i=1)*5", "(p=1)*4+6", "4+i", "s-s/7*7", "(s-s/2*2)*14", "9-i*2", "h/30-f", "r*5+4", "h/99+p"};
+    private static final int[] WRONG = {-2, -1, 3, 5, 8, 10, 13, 14, 31, 32, 64, Integer.MAX_VALUE, Integer.MIN_VALUE};
     private static final int CALLS = 120;
 
     private final Random random;
     private HotThrough x;
     private Plain plain;
     private final List<String> log = new ArrayList<>();
+    /** Each fourth run has a whole kitchen, and is about carrying through it. */
+    private final boolean deep;
     private int answered;
     private int told;
 
     private ModelTest(long seed) {
         random = new Random(seed);
+        deep = seed % 4 == 0;
     }
 
     public static void main(String[] args) {
         long first = args.length > 0 ? Long.parseLong(args[0]) : 1;
-        int runs = args.length > 1 ? Integer.parseInt(args[1]) : 400;
+        int runs = args.length > 1 ? Integer.parseInt(args[1]) : 300;
         int calls = args.length > 2 ? Integer.parseInt(args[2]) : CALLS;
         long answers = 0;
         long rows = 0;
@@ -53,7 +59,7 @@ public final class ModelTest {
 
     /** Mostly a number that is there, now and then another one. */
     private int some(int there) {
-        return chance(3) ? below(4) * 5 - 2 : below(Math.max(1, there));
+        return chance(3) ? WRONG[below(WRONG.length)] : below(Math.max(1, there));
     }
 
     private int person() {
@@ -88,7 +94,7 @@ public final class ModelTest {
         plain = new Plain();
         String fault = null;
         for (int k = 0; k < calls && fault == null; k++) {
-            fault = k < 3 ? kitchen(k > 0) : call();
+            fault = deep ? k == 0 ? wholeKitchen() : deepCall() : k < 3 ? kitchen(k > 0) : call();
             if (fault == null) {
                 fault = compareRow();
             }
@@ -309,6 +315,106 @@ public final class ModelTest {
             fault = same("end(0)", () -> x.end(0) ? 1 : 0, () -> plain.end(0) ? 1 : 0);
         }
         return fault;
+    }
+
+    /** Some places in a line, the turn drawn, with some more ways; pots and people. */
+    private String wholeKitchen() {
+        int places = 4 + below(7);
+        List<String> lines = new ArrayList<>();
+        StringBuilder solid = new StringBuilder();
+        List<Integer> turn = new ArrayList<>();
+        for (int p = 0; p < places; p++) {
+            String kind = p == 0 ? "b" : p == 1 ? "t" : "" + "bbbtf".charAt(below(5));
+            lines.add(kind);
+            if (!kind.equals("f")) {
+                solid.append((char) ('a' + p));
+            }
+            turn.add(below(turn.size() + 1), p);
+        }
+        int ways = places - 1 + below(16 - places);
+        for (int w = 0; w < ways; w++) {
+            int one = w < places - 1 ? turn.get(w) : below(places);
+            int other = w < places - 1 ? turn.get(w + 1) : (one + 1 + below(places - 1)) % places;
+            boolean door = chance(w < places - 1 ? 3 : 60);
+            lines.add("w" + (char) ('a' + one) + (char) ('a' + other) + (1 + below(chance(60) ? 3 : 9)) + (door ? "!" : ""));
+        }
+        int pots = 2 + below(4);
+        for (int p = 0; p < pots; p++) {
+            char at = solid.charAt(below(solid.length()));
+            lines.add("p" + (100 + below(900)) + "-" + below(chance(70) ? 3 : 10) + "@" + at);
+        }
+        int people = 2 + below(4);
+        for (int p = 0; p < people; p++) {
+            lines.add("h" + (30 + below(70)) + "@" + (p < 2 ? solid.charAt(below(solid.length())) : (char) ('a' + below(places))));
+        }
+        String fault = null;
+        for (int k = 0; k < lines.size() && fault == null; k++) {
+            String text = give(lines.get(k));
+            fault = same("kitchen " + text, () -> x.kitchen(), () -> plain.kitchen());
+        }
+        return fault;
+    }
+
+    private String deepCall() {
+        int which = below(100);
+        if (which < 10) {
+            String text = give(DEEP_RULES[below(DEEP_RULES.length)]);
+            return same("rule " + text, () -> x.rule(), () -> plain.rule());
+        }
+        if (which < 22) {
+            int one = Math.max(0, Math.min(person(), plain.world.people.size() - 1));
+            int on = plain.place(plain.world.people.get(one).at, 1);
+            int p = on == 0 ? pot() : Integer.numberOfTrailingZeros(on);
+            return same("take(" + one + "," + p + ")", () -> x.take(one, p), () -> plain.take(one, p));
+        }
+        if (which < 40) {
+            int one = holder();
+            int way = way();
+            int seconds = below(4);
+            switch (below(4)) {
+                case 0: return same("pass(" + seconds + ")", () -> x.pass(seconds), () -> plain.pass(seconds));
+                case 1: return same("change(" + one + ")", () -> x.change(one), () -> plain.change(one));
+                case 2: return same("walk(" + one + "," + way + ")", () -> x.walk(one, way), () -> plain.walk(one, way));
+                default: return same("undo()", () -> x.undo(), () -> plain.undo());
+            }
+        }
+        return which < 90 ? deepQuestion() : question();
+    }
+
+    private String deepQuestion() {
+        int one = holder();
+        int p = pot();
+        int to = place();
+        int r = 1 + below(chance(70) ? 12 : 60);
+        int those = (1 << plain.world.people.size()) - 1;
+        int pots = 0;
+        int empty = 0;
+        for (int k = 0; k < plain.world.people.size(); k++) {
+            if (plain.world.people.get(k).pot >= 0) {
+                those &= ~(1 << k);
+            } else {
+                empty = k;
+            }
+        }
+        for (int k = 0; k < plain.world.pots.size(); k++) {
+            pots |= plain.world.pots.get(k).place >= 0 && chance(80) ? 1 << k : 0;
+        }
+        int bits = those & (chance(70) ? -1 : below(32));
+        int who = empty;
+        int bring = pots;
+        int table = 1 + below(plain.kinds.size() - 1);
+        int v = chance(60) ? 0 : below(400);
+        switch (below(6)) {
+            case 0: return same("far(" + one + "," + to + ")", () -> x.far(one, to), () -> plain.far(one, to));
+            case 1: return same("rests(" + one + "," + to + "," + r + ")", () -> x.rests(one, to, r),
+                () -> plain.rests(one, to, r));
+            case 2: return same("soonest(" + one + "," + to + ")", () -> x.soonest(one, to),
+                () -> plain.soonest(one, to));
+            case 3: case 4: return same("chain(" + p + "," + to + "," + bits + ")", () -> x.chain(p, to, bits),
+                () -> plain.chain(p, to, bits));
+            default: return same("serve(" + who + "," + bring + "," + table + "," + v + ")",
+                () -> x.serve(who, bring, table, v), () -> plain.serve(who, bring, table, v));
+        }
     }
 
     // ---- calls
