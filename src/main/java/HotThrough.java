@@ -238,21 +238,15 @@ public final class HotThrough {
         }
         acts.note();
         int done = 0;
-        int burnings = 0;
-        boolean refused = false;
-        while (done < planned && !refused) {
-            refused = acts.act(done) < 0;
-            if (!refused) {
-                burnings += acts.burnings;
-                done++;
-            }
+        while (done < planned && acts.act(done) >= 0) {
+            done++;
         }
         if (done > 0) {
             acts.settled(done);
         }
         startRow();
-        tell(refused ? 1 : 0);
-        tell(burnings);
+        tell(done < planned ? 1 : 0);
+        tell(acts.burnings);
         return done;
     }
 
@@ -1241,11 +1235,10 @@ public final class HotThrough {
             hand = 1 - hand;
         }
 
-        /** Seconds go by without a pot in hand. */
+        /** Seconds go by without a pot in hand; only burntAfter() asks for the other hand, and never behind this. */
         void rest(int seconds) {
             for (int k = 0; k < seconds; k++) {
                 warm -= warm / 4;
-                other -= other / 4;
                 heat = Math.max(0, heat - cools);
             }
             now += seconds;
@@ -1273,7 +1266,7 @@ public final class HotThrough {
         final State state;
         final Rule rule;
         final Carrier carrier;
-        /** How often people were burnt in the latest act. */
+        /** How often people were burnt since all was noted. */
         int burnings;
         /** Bits of people who were, and of pots that they dropped. */
         int who;
@@ -1301,9 +1294,12 @@ public final class HotThrough {
             return Math.floorMod(oldest + i, UNDONE + 1);
         }
 
-        /** All is noted as it is ahead of an act. */
+        /** All is noted as it is ahead of an act, or of a dinner. */
         void note() {
             before[slot(undoable)].copyFrom(state);
+            burnings = 0;
+            who = 0;
+            fallen = 0;
         }
 
         /** What was noted can be undone, if the act was not refused: its answer. */
@@ -1332,7 +1328,6 @@ public final class HotThrough {
         }
 
         int taken(int person, int pot) {
-            burnings = 0;
             if (!kitchen.isPerson(person)) {
                 return NONE;
             }
@@ -1349,7 +1344,6 @@ public final class HotThrough {
         }
 
         int setDown(int person) {
-            burnings = 0;
             if (!kitchen.isPerson(person)) {
                 return NONE;
             }
@@ -1368,7 +1362,6 @@ public final class HotThrough {
         }
 
         int walked(int person, int way) {
-            burnings = 0;
             if (!kitchen.isPerson(person)) {
                 return NONE;
             }
@@ -1387,12 +1380,9 @@ public final class HotThrough {
         }
 
         int elapsed(int n) {
-            burnings = 0;
             if (n < 0 || n > MOST_HELD) {
                 return NONE;
             }
-            who = 0;
-            fallen = 0;
             for (int k = 0; k < n; k++) {
                 second();
             }
@@ -1440,7 +1430,6 @@ public final class HotThrough {
         }
 
         int changed(int person) {
-            burnings = 0;
             if (!kitchen.isPerson(person)) {
                 return NONE;
             }
@@ -1449,7 +1438,6 @@ public final class HotThrough {
         }
 
         int given(int person, int other) {
-            burnings = 0;
             if (!kitchen.isPerson(person) || !kitchen.isPerson(other) || person == other) {
                 return NONE;
             }
@@ -1476,7 +1464,6 @@ public final class HotThrough {
         }
 
         int opened(int way, int v) {
-            burnings = 0;
             if (!kitchen.isWay(way) || !kitchen.hasDoor(way) || v < 0 || v > 1) {
                 return NONE;
             }
@@ -1667,7 +1654,6 @@ public final class HotThrough {
         final Carrier carrier;
         /** How it was with the carrier at each place of the path. */
         final int[] warm = new int[PLACES];
-        final int[] other = new int[PLACES];
         final int[] heat = new int[PLACES];
         final int[] now = new int[PLACES];
         final int[] chosen = new int[PLACES];
@@ -1700,13 +1686,11 @@ public final class HotThrough {
                 return;
             }
             warm[at] = carrier.warm;
-            other[at] = carrier.other;
             heat[at] = carrier.heat;
             now[at] = carrier.now;
             goOn(at, rests);
             if (at > 0 && rests < most && rests < PLACES && kitchen.kinds[paths.places[at]] != FLOOR) {
                 carrier.warm = warm[at];
-                carrier.other = other[at];
                 carrier.heat = heat[at];
                 carrier.now = now[at];
                 carrier.rest(seconds);
@@ -1823,9 +1807,8 @@ public final class HotThrough {
         /** Steps to each pot from where one is at first, and from the table. */
         final int[] first = new int[POTS];
         final int[] haul = new int[POTS];
-        /** How it was with the carrier ahead of each pot. */
-        final int[] warm = new int[POTS + 1];
-        final int[] other = new int[POTS + 1];
+        /** How warm the hand was ahead of each pot. */
+        final int[] warm = new int[POTS];
         final int[] order = new int[POTS];
         final int[] best = new int[POTS];
         int size;
@@ -1875,14 +1858,12 @@ public final class HotThrough {
                 return;
             }
             warm[brought] = carrier.warm;
-            other[brought] = carrier.other;
             for (int p = 0; p < kitchen.pots; p++) {
                 if (((those & ~bits) >> p & 1) != 0) {
                     int walk = brought == 0 ? first[p] : haul[p];
                     int then = seconds + walk + haul[p];
                     if (then <= MOST_SECONDS && (bestSeconds == NONE || then <= bestSeconds)) {
                         carrier.warm = warm[brought];
-                        carrier.other = other[brought];
                         carrier.now = state.now + seconds;
                         carrier.rest(walk);
                         carrier.lift(p);

@@ -19,6 +19,9 @@ public final class ActsTest {
         dinnerFaults();
         dinnerUndone();
         undoing();
+        undoingEach();
+        fiveCooks();
+        dinnerBurnings();
         undoingLimit();
         CHECK.finish();
     }
@@ -158,6 +161,10 @@ public final class ActsTest {
         x.change(0);
         x.walk(0, 0);
         CHECK.row("the hand that is used", x, 0, 0);
+        HotThrough y = room("10");
+        y.take(1, 1);
+        CHECK.due("another one", y.walk(1, 0), 2);
+        CHECK.row("another one", y, 0, 20);
     }
 
     private static void passing() {
@@ -224,6 +231,9 @@ public final class ActsTest {
         CHECK.due("two acts", x.count(8), 2);
         CHECK.due("is 9", x.person(1, 5), 9);
         CHECK.due("10", x.fold(1, 10), -1);
+        CHECK.due("0 again", x.fold(1, 0), 9);
+        CHECK.due("undone", x.undo(), 2);
+        CHECK.due("9 again", x.person(1, 5), 9);
         CHECK.due("-1", x.fold(1, -1), -1);
         CHECK.due("none such", x.fold(3, 1), -1);
         CHECK.due("nobody -1", x.fold(-1, 1), -1);
@@ -381,6 +391,98 @@ public final class ActsTest {
         x.mark(0, 0);
         x.undo();
         CHECK.due("marks stay", x.count(9), 1);
+    }
+
+    /** Each act is undone to what was just ahead of it, heats that were put since the one before it, too. */
+    private static void undoingEach() {
+        HotThrough x = Check.told("b;b;wab2;wab2!;p100-5@a;p40-1@b;h30@a;h50@a;h60@b;h70@b;h80@b");
+        Check.rule(x, "9");
+        for (int act = 0; act < 9; act++) {
+            if (act == 1 || act == 5) {
+                x.take(0, 0);
+            }
+            x.heat(1, 500 + act);
+            x.heat(0, 300 + act);
+            int acts = x.count(8);
+            CHECK.due("act " + act, act(x, act) >= 0, true);
+            CHECK.due("one more behind act " + act, x.count(8), Math.min(15, acts + 1));
+            x.heat(1, 7);
+            CHECK.due("act " + act + " undone", x.undo(), Math.min(14, acts));
+            CHECK.due("heat ahead of act " + act, x.pot(0, 0) * 1000 + x.pot(1, 0), 300500 + 1001 * act);
+            CHECK.due("fold ahead of act " + act, x.person(4, 5), 0);
+            CHECK.due("hand ahead of act " + act, x.person(4, 4), 0);
+            CHECK.due("doors ahead of act " + act, x.count(5), 0);
+            CHECK.due("now ahead of act " + act, x.count(4), 0);
+            CHECK.due("who holds pot 0 ahead of act " + act, x.pot(0, 3), act == 0 || act > 1 && act < 5 ? -1 : 0);
+            if (act == 1) {
+                x.down(0);
+            }
+        }
+    }
+
+    private static int act(HotThrough x, int which) {
+        switch (which) {
+            case 0: return x.take(0, 0);
+            case 1: return x.down(0);
+            case 2: return x.change(4);
+            case 3: return x.fold(4, 8);
+            case 4: return x.door(1, 1);
+            case 5: return x.give(0, 1);
+            case 6: return x.walk(0, 0);
+            case 7: return x.pass(3);
+            default: return Check.dinner(x, "s2;c4;o1;d0");
+        }
+    }
+
+    /** Hands of all five cool, and are kept. */
+    private static void fiveCooks() {
+        HotThrough x = Check.told("b;p9-0@a;p9-0@a;p9-0@a;p9-0@a;p9-0@a;h99@a;h99@a;h99@a;h99@a;h99@a");
+        Check.rule(x, "20+i");
+        for (int p = 0; p < 5; p++) {
+            x.take(p, p);
+            x.change(p);
+        }
+        x.pass(2);
+        x.keep(0);
+        for (int p = 0; p < 5; p++) {
+            CHECK.due("warm hand 1 of " + p, x.person(p, 3), 40 + 2 * p);
+            x.down(p);
+        }
+        x.pass(1);
+        for (int p = 0; p < 5; p++) {
+            CHECK.due("cooler hand 1 of " + p, x.person(p, 3), 40 + 2 * p - (40 + 2 * p) / 4);
+        }
+        x.undo();
+        for (int p = 0; p < 5; p++) {
+            CHECK.due("warm again, hand 1 of " + p, x.person(p, 3), 40 + 2 * p);
+        }
+        x.pass(9);
+        x.again(0);
+        for (int p = 0; p < 5; p++) {
+            CHECK.due("as kept, hand 1 of " + p, x.person(p, 3), 40 + 2 * p);
+            CHECK.due("as kept, pot of " + p, x.person(p, 6), p);
+        }
+        x.pass(2);
+        x.change(4);
+        x.pass(9);
+        CHECK.due("all five were burnt", x.count(7), 5);
+    }
+
+    /** Of a dinner, each burning counts once, whatever comes behind it. */
+    private static void dinnerBurnings() {
+        String[] behind = {"t11", "t11;d1", "c1", "t11;g12", "o2", "w10", "s0", "s1", "d0", "c9"};
+        for (String acts : behind) {
+            HotThrough x = room("31");
+            Check.dinner(x, "t00;s1;" + acts);
+            CHECK.due("burnings behind which comes " + acts, x.row(1), 1);
+        }
+        HotThrough x = room("31");
+        x.take(0, 0);
+        x.pass(1);
+        Check.dinner(x, "c0");
+        CHECK.row("none in this one", x, 0, 0);
+        x.pass(1);
+        CHECK.row("none in this second", x, 0, 0);
     }
 
     private static void undoingLimit() {

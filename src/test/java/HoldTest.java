@@ -5,6 +5,7 @@ public final class HoldTest {
     public static void main(String[] args) {
         lasting();
         swapping();
+        swappingHands();
         howOften();
         layers();
         hottest();
@@ -93,6 +94,27 @@ public final class HoldTest {
         CHECK.row("each one, more and more", x, 11);
     }
 
+    /** Of another one, who uses the other hand; the hand is told to the rule. */
+    private static void swappingHands() {
+        HotThrough x = room("9");
+        x.take(1, 0);
+        x.pass(3);
+        x.change(1);
+        Check.rule(x, "12");
+        // hand 1: 12 24 36; then hand 0: 27 21 16 28 40, 52
+        CHECK.due("from hand 1 to hand 0", x.swaps(1, 4), 7);
+        CHECK.row("from hand 1 to hand 0", x, 1);
+        Check.rule(x, "r*4+1");
+        // hand 1 5; hand 0 27-6+1 .. : 1 and 5 by turns
+        CHECK.due("by turns for ever", x.swaps(1, 1), -2);
+        Check.rule(x, "(r>1)*99+(r<0)*99");
+        CHECK.due("r is 0 or 1", x.swaps(1, 1), -2);
+        CHECK.row("r is 0 or 1", x, 300);
+        Check.rule(x, "(s=102)*99");
+        CHECK.due("n 99, in second 100", x.swaps(1, 99), 100);
+        CHECK.row("n 99, in second 100", x, 1);
+    }
+
     private static void howOften() {
         HotThrough x = room("10");
         CHECK.due("holds none", x.often(0), -1);
@@ -141,6 +163,11 @@ public final class HoldTest {
         CHECK.due("nobody", x.layers(3, 0, 1), -1);
         CHECK.due("nobody -1", x.layers(-1, 0, 1), -1);
         CHECK.row("refused", x, 16);
+        Check.rule(x, "f=2");
+        CHECK.due("99 seconds", x.layers(0, 0, 99), 0);
+        Check.rule(x, "31*(f<9)");
+        CHECK.due("the most", x.layers(0, 0, 3), 9);
+        CHECK.row("the most", x, 0);
         Check.rule(x, "31-(f=7)");
         CHECK.due("just seven", x.layers(0, 0, 1), 7);
         CHECK.row("just seven", x, 30);
@@ -176,6 +203,9 @@ public final class HoldTest {
         CHECK.due("nobody", x.hottest(3, 0, 1), -1);
         Check.rule(x, "(h=500)*31");
         CHECK.due("each lesser one too", x.hottest(0, 1, 1), 499);
+        Check.rule(x, "(h=999)*31");
+        CHECK.due("all but 999", x.hottest(0, 1, 1), 998);
+        CHECK.due("99 seconds", x.hottest(0, 1, 99), 998);
         Check.rule(x, "(h=0)*31");
         CHECK.due("not even 0", x.hottest(0, 1, 1), -2);
         Check.rule(x, "99");

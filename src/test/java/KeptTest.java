@@ -5,6 +5,7 @@ public final class KeptTest {
     public static void main(String[] args) {
         marks();
         fitting();
+        fittingByPlaceNought();
         fittingMarks();
         fittingMany();
         dinners();
@@ -57,6 +58,16 @@ public final class KeptTest {
         CHECK.due("place -1", x.fits(-1, 0), -1);
         CHECK.due("to place -1", x.fits(0, -1), -1);
         CHECK.row("the row stays", x);
+    }
+
+    /** A way that is in the middle of all, on a new object. */
+    private static void fittingByPlaceNought() {
+        HotThrough x = Check.told("f;f;f;wab1;wac2;wbc9");
+        CHECK.due("by a, or not", x.fits(1, 2), 2);
+        CHECK.row("by a, or not", x, 1, 0, 2);
+        x.mark(0, 1);
+        CHECK.due("by a", x.fits(1, 2), 1);
+        CHECK.due("once more", x.fits(1, 2), 1);
     }
 
     private static void fittingMarks() {

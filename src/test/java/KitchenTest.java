@@ -99,6 +99,20 @@ public final class KitchenTest {
         CHECK.due("a kitchen", Check.kitchen(x, "f"), 1);
         CHECK.due("forgets what can be undone", x.count(8), 0);
         CHECK.due("and leaves what is", x.person(0, 6), 0);
+        leavingsOfFaults();
+    }
+
+    /** Lines of a text that can't come leave nothing for those that come later. */
+    private static void leavingsOfFaults() {
+        HotThrough x = Check.told("b;b");
+        CHECK.due("doors, and a fault", Check.kitchen(x, "wab9!;wab9!;p99-9@a;h99@b;x"), -27);
+        CHECK.due("none of it came", x.count(1) + x.count(2) + x.count(3), 0);
+        CHECK.due("others", Check.kitchen(x, "wba1;wab2;p1-0@b;h2@a"), 4);
+        CHECK.due("way 0", x.way(0, 0) * 100 + x.way(0, 1) * 10 + x.way(0, 2), 101);
+        CHECK.due("no doors", x.way(0, 3) + x.way(1, 3), 0);
+        CHECK.due("no door to open", x.door(0, 1), -1);
+        CHECK.due("pot 0", x.pot(0, 0) * 100 + x.pot(0, 1) * 10 + x.pot(0, 2), 101);
+        CHECK.due("person 0", x.person(0, 0) * 10 + x.person(0, 1), 20);
     }
 
     private static void fault(String text, int want) {
@@ -400,6 +414,8 @@ public final class KitchenTest {
         CHECK.due("kind 4", x.sheet(4, -1, 1, 0), -1);
         CHECK.due("kind -1", x.sheet(-1, 0, 1, 0), -1);
         CHECK.due("n below 0", x.sheet(0, -1, 1, 0), -2);
+        CHECK.due("n below 0, shorts", x.sheet(1, -1, 1, 0), -2);
+        CHECK.due("n below 0, ints", x.sheet(2, Integer.MIN_VALUE, 1, 0), -2);
         CHECK.due("nothing changed", x.pot(1, 0), 7);
         x.take(0, 1);
         x.heat(1, 500);

@@ -8,6 +8,7 @@ public final class WaysTest {
         farness();
         resting();
         restingLeastRow();
+        restingMore();
         soonest();
         chains();
         chainsTimes();
@@ -162,6 +163,61 @@ public final class WaysTest {
         CHECK.row("from one to nine", z, 8, 1);
     }
 
+    private static void restingMore() {
+        // a board a, then b, c, d: rests at c or b do, of which b is less, though c is tried first
+        HotThrough x = Check.told("b;b;b;b;t;wab1;wbc1;wcd1;wde1;p100-9@a;h40@a");
+        Check.rule(x, "(s=1)*11+(s=2)*11+(s=3)*11+10");
+        x.take(0, 0);
+        CHECK.due("any one", x.rests(0, 4, 20), 1);
+        CHECK.row("any one: b", x, 1);
+        // twice: what comes through but where it stands too short
+        Check.rule(x, "21");
+        CHECK.due("at least each second one", x.rests(0, 4, 20), 3);
+        CHECK.row("at least each second one", x, 1, 2, 3);
+        Check.rule(x, "18");
+        CHECK.due("once, two and two", x.rests(0, 4, 20), 1);
+        CHECK.row("once, two and two", x, 2);
+        Check.rule(x, "12");
+        CHECK.due("once, somewhere", x.rests(0, 4, 20), 1);
+        CHECK.row("once, somewhere", x, 1);
+        restingLater(x);
+    }
+
+    /** Heat and time as they are where it rests, not as in a trial without that rest. */
+    private static void restingLater(HotThrough x) {
+        Check.rule(x, "(s=1)*(h=91)*40+(s=13)*(h=0)*40+1");
+        CHECK.due("at b, and ahead of second 13", x.rests(0, 4, 11), 2);
+        CHECK.row("at b, and ahead of second 13", x, 1, 2);
+        CHECK.due("at b, and at c or d", x.rests(0, 4, 10), 2);
+        CHECK.row("at b, and at c or d", x, 1, 2);
+        CHECK.due("12 at b is second 13", x.rests(0, 4, 12), -2);
+        Check.rule(x, "(h=0)*(s>9)*41+(s=1)*41");
+        CHECK.due("cold behind 12", x.rests(0, 4, 9), -2);
+        CHECK.due("cold at once", x.rests(0, 4, 60), -2);
+        x.heat(0, 999);
+        CHECK.due("hot all the time", x.rests(0, 4, 60), 1);
+        CHECK.due("soonest", x.soonest(0, 4), 5);
+        CHECK.row("soonest", x, 1, 1);
+        Check.rule(x, "(s>0)*(s<61)*41");
+        CHECK.due("59 are too few", x.rests(0, 4, 59), -2);
+        CHECK.due("sixty", x.rests(0, 4, 60), 1);
+        CHECK.due("soonest by sixty", x.soonest(0, 4), 64);
+        CHECK.row("soonest by sixty", x, 60, 1);
+        restingTwice();
+    }
+
+    private static void restingTwice() {
+        // by e, d and b: 15 30, 9 24, 7 22; but 15, 5 20 35, and 15, 5 20, 6 21 36
+        HotThrough y = Check.told("b;b;b;b;t;wae1;wed1;wdb1;wbc1;p100-0@a;h30@a");
+        Check.rule(y, "15");
+        y.take(0, 0);
+        CHECK.due("two", y.rests(0, 2, 5), 2);
+        CHECK.row("two", y, 3, 1);
+        Check.rule(y, "12");
+        CHECK.due("one of three", y.rests(0, 2, 20), 1);
+        CHECK.row("one of three", y, 3);
+    }
+
     private static void soonest() {
         HotThrough x = Check.told("b;b;b;b;wab2;wbc2;wcd2;p100-0@a;h30@a");
         Check.rule(x, "6");
@@ -236,6 +292,25 @@ public final class WaysTest {
         x.pass(3);
         CHECK.due("dropped", x.chain(1, 3, 7), -1);
         CHECK.due("now", x.count(4), 3);
+        x.take(3, 0);
+        CHECK.due("it is held", x.chain(0, 3, 1), -1);
+        x.down(3);
+        CHECK.due("it is not", x.chain(0, 2, 2), 1);
+        x.walk(0, 2);
+        x.walk(0, 1);
+        x.walk(0, 0);
+        x.take(0, 0);
+        Check.kitchen(x, "p5-9@a");
+        CHECK.due("person 0 holds a pot", x.chain(2, 3, 3), -1);
+        Check.rule(x, "(h=1)*99+6");
+        CHECK.due("5, then 0", x.chain(2, 3, 6), 2);
+        CHECK.row("5, then 0", x, 1, 1, 2);
+        Check.rule(x, "(h<0)*99+6");
+        CHECK.due("never below", x.chain(2, 3, 6), 2);
+        Check.rule(x, "(h=0)*(i=1)*99");
+        CHECK.due("cold", x.chain(2, 3, 2), -2);
+        CHECK.due("another one can", x.chain(2, 3, 6), 1);
+        CHECK.row("another one can", x, 2, 2, 2);
     }
 
     private static void chainsTimes() {
@@ -327,6 +402,25 @@ public final class WaysTest {
         Check.rule(x, "100");
         CHECK.due("burnt", x.serve(0, 3, 1, 0), -2);
         CHECK.due("nobody was, in truth", x.count(7), 0);
+        x.heat(1, 999);
+        Check.rule(x, "0");
+        CHECK.due("999 is too hot", x.serve(0, 2, 1, 999), -2);
+        // The hand is as warm at first for each order.
+        HotThrough v = Check.told("b;t;b;wab2;wbc1;p99-0@a;p80-0@c;p9-0@b;h30@b");
+        Check.rule(v, "7");
+        v.take(0, 2);
+        v.pass(4);
+        v.down(0);
+        // 28 -> 21 16 +7 +7 = 30 and no more, or 28 -> 21 + 7 = 28 -> 21 16 30
+        CHECK.due("0, then 1", v.serve(0, 3, 1, 0), 6);
+        CHECK.row("0, then 1", v, 0, 1, 80);
+        Check.rule(v, "8-(s=5)");
+        // 0 first: 16 +8 +8 = 32; 1 first: 28 -> 21 +7 = 28 -> 21 16 32; no
+        CHECK.due("neither", v.serve(0, 3, 1, 0), -2);
+        Check.rule(v, "8-(p=1)*7-(s>7)");
+        // 0 first: 21 16 24 32; 1 first: 21 +1 = 22 -> 17 13 +8 +7
+        CHECK.due("1, then 0", v.serve(0, 3, 1, 0), 6);
+        CHECK.row("1, then 0", v, 1, 0, 80);
         // 300 seconds at most.
         HotThrough y = Check.told("b;t;f;f;wac9;wcd9;wdb9;p9-0@a;p9-0@a;p9-0@a;p9-0@a;p9-0@a;h99@a");
         Check.rule(y, "0");
