@@ -1543,7 +1543,7 @@ public final class HotThrough {
 
     /** The shortest path between two places, of as short ones that of the least row of places. */
     private static final class Paths {
-        private static final int UNREACHED = Integer.MAX_VALUE / 2;
+        private static final int UNREACHED = 1 << 30;
         /** In a cost, doors to be opened stand above their bits, and steps above both. */
         private static final int DOOR = 1 << WAYS;
         private static final int STEP = DOOR << 4;

@@ -493,6 +493,8 @@ public final class ActsTest {
         }
         int now = x.count(4);
         CHECK.due("now", now, 820);
+        CHECK.due("refused ones forget nothing", x.take(9, 9) + x.down(0) + x.pass(-1), -1 - 2 - 1);
+        CHECK.due("still fifteen", x.count(8), 15);
         for (int k = 40; k > 25; k--) {
             CHECK.due("left behind " + k, x.undo(), k - 26);
             now -= k;

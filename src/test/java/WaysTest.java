@@ -69,6 +69,13 @@ public final class WaysTest {
         Check.kitchen(x, "f");
         CHECK.due("not even then", x.clear(0, 4), -2);
         CHECK.row("the row stays", x, 0, 0);
+        HotThrough w = Check.told("f;f;f;f;f;f;f;f;f;f;wab9!;wbc9!;wcd9!;wde9!;wef9!;wfg9!");
+        Check.kitchen(w, "wgh9!;whi9!;wij9!;wab9!");
+        CHECK.due("nine doors", w.clear(0, 9), 9);
+        CHECK.row("nine doors", w, 511, 81);
+        w.door(9, 1);
+        CHECK.due("eight doors", w.clear(9, 0), 8);
+        CHECK.row("eight doors", w, 510, 81);
         HotThrough y = Check.told("f;f;f;wab1!;wbc1!;wac2!");
         CHECK.due("fewest steps first, then doors", y.clear(0, 2), 1);
         CHECK.row("fewest steps first, then doors", y, 4, 2);
@@ -194,6 +201,11 @@ public final class WaysTest {
         Check.rule(x, "(h=0)*(s>9)*41+(s=1)*41");
         CHECK.due("cold behind 12", x.rests(0, 4, 9), -2);
         CHECK.due("cold at once", x.rests(0, 4, 60), -2);
+        // the pot is just as hot as the time tells, at each trial
+        Check.rule(x, "41*(h+9*s<100)+41*(h+9*s>100)+41*(s=3)");
+        CHECK.due("not in second 3", x.rests(0, 4, 3), 1);
+        CHECK.row("not in second 3", x, 1);
+        Check.rule(x, "(h=0)*(s>9)*41+(s=1)*41");
         x.heat(0, 999);
         CHECK.due("hot all the time", x.rests(0, 4, 60), 1);
         CHECK.due("soonest", x.soonest(0, 4), 5);
