@@ -95,6 +95,73 @@ final class Check {
         return x;
     }
 
+    /** All that can be asked of an object without telling it anything. */
+    static String all(HotThrough x) {
+        StringBuilder s = new StringBuilder();
+        for (int what = 0; what <= 11; what++) {
+            s.append(x.count(what)).append(' ');
+        }
+        for (int p = 0; p < x.count(0); p++) {
+            s.append("place ").append(p);
+            for (int what = 0; what <= 3; what++) {
+                s.append(' ').append(x.place(p, what));
+            }
+        }
+        for (int w = 0; w < x.count(1); w++) {
+            s.append(" way ").append(w);
+            for (int what = 0; what <= 3; what++) {
+                s.append(' ').append(x.way(w, what));
+            }
+        }
+        for (int p = 0; p < x.count(2); p++) {
+            s.append(" pot ").append(p);
+            for (int what = 0; what <= 4; what++) {
+                s.append(' ').append(x.pot(p, what));
+            }
+        }
+        for (int p = 0; p < x.count(3); p++) {
+            s.append(" person ").append(p);
+            for (int what = 0; what <= 8; what++) {
+                s.append(' ').append(x.person(p, what));
+            }
+        }
+        s.append(" row");
+        for (int i = 0; i < x.count(10); i++) {
+            s.append(' ').append(x.row(i));
+        }
+        return s.toString();
+    }
+
+    /** POTS, PEOPLE, doors and NOW. */
+    static String state(HotThrough x) {
+        StringBuilder s = new StringBuilder();
+        s.append(x.count(4)).append(' ').append(x.count(5)).append(' ').append(x.count(6)).append(' ').append(x.count(7));
+        for (int p = 0; p < x.count(2); p++) {
+            for (int what = 0; what <= 4; what++) {
+                s.append(' ').append(x.pot(p, what));
+            }
+        }
+        for (int p = 0; p < x.count(3); p++) {
+            for (int what = 0; what <= 7; what++) {
+                s.append(' ').append(x.person(p, what));
+            }
+        }
+        return s.toString();
+    }
+
+    /** The call must answer so, and nothing that can be asked may be another than ahead of it. */
+    void leaves(String what, HotThrough x, Call call, long want) {
+        String before = all(x);
+        due(what, call.get(), want);
+        String after = all(x);
+        if (before.equals(after)) {
+            passed++;
+        } else {
+            failed++;
+            System.out.println(name + ": " + what + " changed\n  " + before + "\n  to\n  " + after);
+        }
+    }
+
     /** Prints the sum; ends the program with code 1 if something was not as due. */
     void finish() {
         System.out.println(name + ": " + passed + " checks as due, " + failed + " not");
