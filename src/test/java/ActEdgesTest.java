@@ -129,6 +129,9 @@ public final class ActEdgesTest {
         x.change(0);
         CHECK.due("back", x.walk(0, 0), 3);
         CHECK.row("the other hand", x, 0, 0);
+        // 18; 14, 11, 9 and 7, 6, 5 by those walks; then 4, 3, 3
+        CHECK.due("the one who was burnt", x.walk(1, 0), 3);
+        CHECK.row("its hand is as warm as it is then", x, 0, 3);
     }
 
     /** Promise 15: "n SECONDS (0 .. 99) ..; the ROW: who was (bits), POTS that were DROPPED (bits). NONE: another n". */

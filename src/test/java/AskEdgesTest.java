@@ -308,6 +308,10 @@ public final class AskEdgesTest {
         CHECK.due("open", y.path(0, 1), 1);
         y.door(0, 0);
         CHECK.leaves("shut again", y, () -> y.path(0, 1), -2);
+        // from b to c: a is behind a shut door, and one step farther than b
+        HotThrough z = Check.told("f;f;f;wab1!;wbc1;wac2");
+        CHECK.due("not by the shut door", z.path(1, 2), 1);
+        CHECK.row("not by the shut door", z, 1, 2);
     }
 
     /** Promise 28: "WAYS (bits; of as few the least), those STEPS. -2: not even then; NONE: others". */
@@ -485,6 +489,11 @@ public final class AskEdgesTest {
         CHECK.due("twice one is too short", x.rests(0, 3, 1), -2);
         CHECK.due("once two", x.soonest(0, 3), 5);
         CHECK.row("once two", x, 2, 1);
+        Check.rule(x, "20");
+        // r 2: 20, 12 32, 18 38; but not 20 40, 23 43, nor 20, 12 32 52. r 3, at c alone: 20 40, 18 38
+        CHECK.due("twice two", x.rests(0, 3, 2), 2);
+        CHECK.due("once three is sooner by one", x.soonest(0, 3), 6);
+        CHECK.row("once three is sooner by one", x, 3, 1);
         HotThrough y = Check.told("b;b;b;b;b;wab1;wbc1;wcd1;wde1;p9-0@a;h30@a");
         Check.rule(y, "11");
         y.take(0, 0);
@@ -534,6 +543,12 @@ public final class AskEdgesTest {
         CHECK.leaves("a pot that is dropped", x, () -> x.chain(1, 2, 5), -1);
         Check.rule(x, "0");
         CHECK.due("all three", x.chain(0, 2, 7), 1);
+        CHECK.row("all three: 0", x, 0, 0);
+        Check.kitchen(x, "p9-0@c");
+        x.take(0, 0);
+        CHECK.leaves("person 0 holds a pot", x, () -> x.chain(3, 0, 1), -1);
+        CHECK.leaves("pot 0 is held", x, () -> x.chain(0, 2, 4), -1);
+        CHECK.due("another pot, by another one", x.chain(3, 0, 4), 1);
     }
 
     /** Promise 32: "each one piece of WAYS, or none, one behind another, .. as WARM as they are now". */
@@ -616,6 +631,10 @@ public final class AskEdgesTest {
         x.pass(1);
         CHECK.leaves("a pot that is dropped", x, () -> x.serve(0, 2, 2, 0), -1);
         Check.rule(x, "0");
+        x.take(1, 0);
+        CHECK.leaves("pot 0 is held", x, () -> x.serve(0, 1, 2, 0), -1);
+        CHECK.leaves("one of two is", x, () -> x.serve(0, 5, 2, 0), -1);
+        x.down(1);
         Check.kitchen(x, "t;h9@e;p9-0@f");
         CHECK.leaves("no path to the table", x, () -> x.serve(0, 1, 5, 0), -2);
         CHECK.leaves("no path to the pot", x, () -> x.serve(3, 1, 2, 0), -2);

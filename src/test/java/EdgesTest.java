@@ -104,6 +104,7 @@ public final class EdgesTest {
         CHECK.due("fourteen", x.count(1), 14);
         CHECK.due("no fifteenth", Check.kitchen(x, "wab1"), fault(0));
         CHECK.due("the last one's door", x.door(13, 1), 1);
+        CHECK.due("it is open", x.way(13, 3), 2);
         CHECK.due("bits of it", x.count(5), 1 << 13);
         CHECK.due("by the last one", x.walk(0, 13), 5);
         CHECK.due("by it, back", x.walk(0, 13), 5);
@@ -667,6 +668,11 @@ public final class EdgesTest {
         faulty(there, ways + "f;f;" + "x", 76);
         faulty(there, ways + "f;fx" + ";f", 75);
         faulty(there, ways + "h00@" + "a", 74);
+        faulty(there, ways + "b;h0" + "0@a", 76);
+        faulty(there, ways + "b;h0" + "5@a", 76);
+        faulty(there, ways + "h0@a" + ";f", 73);
+        faulty(there, ways + "fh0", 73);
+        faulty(there, ways + "b;h0", 75);
         faulty(there, ways + "waa1" + ";f", 74);
         faulty(there, ways + "f;f;", 76);
         faulty(there, ways + "f;wa", 76);
