@@ -425,6 +425,15 @@ public final class ActEdgesTest {
         }
         CHECK.due("the first six stay done", x.count(4), 6);
         CHECK.due("none", x.undo(), -1);
+        HotThrough y = room("0");
+        for (int k = 0; k < 480; k++) {
+            y.pass(1);
+        }
+        for (int left = 14; left >= 0; left--) {
+            CHECK.due("behind 480 acts", y.undo(), left);
+        }
+        CHECK.leaves("no sixteenth behind 480 acts", y, y::undo, -1);
+        CHECK.due("465 stay done", y.count(4), 465);
     }
 
     /** Promise 21: "such as were not refused; pass() of 1 and more; dinner() of which one ACT was done". */
