@@ -22,6 +22,7 @@ public final class AskEdgesTest {
         fars();
         rests();
         restsOnBoardsAlone();
+        restsEarlierAndFewer();
         soonest();
         soonestOfEqualOnes();
         chains();
@@ -440,6 +441,27 @@ public final class AskEdgesTest {
         // 12 at b, 21 at c, 30 at d, 39: either, and b is less than d
         CHECK.due("either", x.rests(0, 4, 60), 1);
         CHECK.row("either", x, 1);
+    }
+
+    /** Promise 30: "the fewest times": once on an earlier board, though twice on later ones of lesser numbers would do. */
+    private static void restsEarlierAndFewer() {
+        HotThrough x = Check.told("b;b;b;b;b;wad1;wdb1;wbc1;wce1;p9-0@a;h60@a");
+        Check.rule(x, "4+((n=9)+(n=10)+(n=12))*99");
+        x.take(0, 0);
+        // 4 8 12; at d: 4, 3 7 11 15; at b: 4 8, 6 10; at c: 4 8 12, 9; at b and c: 4 8, 6 10, 8 12
+        CHECK.due("once at d", x.rests(0, 4, 1), 1);
+        CHECK.row("once at d", x, 3);
+        CHECK.due("so it is there", x.soonest(0, 4), 5);
+        CHECK.row("so it is there", x, 1, 1);
+        x.walk(0, 0);
+        // as warm as 4 it begins at d: 8 12; at b: 8, 6 10; at c: 8 12, 9; at both: 8, 6 10, 8 12
+        CHECK.due("from d, twice", x.rests(0, 4, 1), 2);
+        CHECK.row("from d, twice", x, 1, 2);
+        HotThrough y = Check.told("b;b;b;b;b;wab1;wbc1;wcd1;wde1;p9-0@a;h60@a");
+        Check.rule(y, "4+((n=9)+(n=10)+(n=12))*99");
+        y.take(0, 0);
+        CHECK.due("once at b", y.rests(0, 4, 1), 1);
+        CHECK.row("once at b", y, 1);
     }
 
     /** Promise 31: "r being what one likes (1 .. 60 ..) .. 0 if it need not be set down .. -2: with no r; -3, NONE". */
